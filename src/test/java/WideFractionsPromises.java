@@ -276,6 +276,9 @@ public final class WideFractionsPromises {
         addAround(all, ONE.shiftLeft(32).subtract(ONE).shiftLeft(64));
         addAround(all, HALF_LIMIT.subtract(ONE).shiftLeft(64));
         addAround(all, LIMIT.divide(BigInteger.valueOf(3)));
+        // The product of the two just below these carries through a half that is all ones, which chance never hits.
+        addAround(all, ONE.shiftLeft(127).add(ONE.shiftLeft(64)));
+        addAround(all, ONE.shiftLeft(127).add(ONE.shiftLeft(65)));
         return all;
     }
 
